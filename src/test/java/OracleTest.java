@@ -9,7 +9,7 @@ import java.util.Random;
 
 /** Every method of the face, asked in long runs of calls, against what the Oracle answers. */
 public final class OracleTest {
-    private static final int OBJECTS = 500, CALLS = 512;
+    private static final int OBJECTS = 300, CALLS = 512;
     private static final List<Method> FACE = new ArrayList<>();
 
     private final Random random;
