@@ -7,7 +7,9 @@ public final class RuleTest {
         lineOfThree();
         wholeNetOfFour();
         maybe();
+        onlyGoodRunsCount();
         behindCalls();
+        tokensThatAreLost();
         bestCalls();
         refusals();
         Check.finish();
@@ -86,6 +88,26 @@ public final class RuleTest {
         }
         Check.due("P9 maybe alone", x.verdict(1), 1);
         Check.isTrue("P11 a call that keeps it, but not sure", some);
+    }
+
+    /** Some runs that are not good have 2 calls, some 4; the good ones have 3. */
+    private static void onlyGoodRunsCount() {
+        CallRounds x = Check.withCalls("p2;p2;p;p01", "02");
+        Check.due("P9 maybe alone", x.verdict(1), 1);
+        Check.due("P10 fewest of a good run", x.calls(1, 0), 3);
+        Check.due("P10 most of a good run", x.calls(1, 1), 3);
+    }
+
+    /** By any calls, not those of the rule: 0 and 1 have rung one another, so that neither is a hub. */
+    private static void tokensThatAreLost() {
+        CallRounds x = Check.withCalls("p12;p0;p", "01 10");
+        all("no hub that has a number", x, 3, 1, 0, 0, -9, -9, -9, -9);
+        all("any: two ring 2, then four the third", x, 0, 8, 8, 2, 2, 2, 0, 2);
+        Check.due("P7 0 has its token back", x.may(2, 0), 4);
+        Check.due("P7 1 has none", x.may(2, 1), 0);
+        Check.due("P11 1 may not by its token", x.keeps(2, 1, 2), -3);
+        Check.due("P11 nor as a hub", x.keeps(3, 1, 2), -3);
+        Check.due("P11 but by any", x.keeps(0, 1, 2), 2);
     }
 
     private static void behindCalls() {
