@@ -7,6 +7,7 @@ public final class NetsTest {
         mending();
         allNets();
         within();
+        withinByTokensAlone();
         refusals();
         Check.finish();
     }
@@ -121,6 +122,27 @@ public final class NetsTest {
         CallRounds spent = Check.withCalls("p12;p;p", "01");
         Check.due("P22 0 has no token for 2", spent.within(0, 2), 0);
         Check.due("P22 1 has no hub's token for 2", spent.within(0, 3), 0);
+    }
+
+    /** One object, asked where TOKENS alone are other ones than where it was asked ahead. */
+    private static void withinByTokensAlone() {
+        CallRounds x = Check.withCalls("p12;p0;p", "01 02");
+        Check.due("P22 1 has its token", x.within(1, 2), 1);
+        rung(x, "10 02");
+        Check.due("P22 1 has lost it", x.within(1, 2), 0);
+        rung(x, "01 12");
+        Check.due("P22 0 is a hub", x.within(1, 3), 1);
+        rung(x, "10 12");
+        Check.due("P22 0 is none", x.within(1, 3), 0);
+        rung(x, "01 10");
+        Check.due("P22 no hub has a number", x.within(3, 1), 1);
+        rung(x, "01");
+        Check.due("P22 0 is a hub and rings 1 again", x.within(3, 1), 0);
+    }
+
+    private static void rung(CallRounds x, String pairs) {
+        while (x.many(1) > 0) x.back();
+        for (String pair : pairs.split(" ")) Check.isTrue("P4 " + pair, x.call(pair.charAt(0) - '0', pair.charAt(1) - '0') >= 0);
     }
 
     private static void refusals() {

@@ -5,6 +5,8 @@ public final class SureTest {
         two();
         three();
         secretsTellApart();
+        secretsBehindItTellApart();
+        withWhomTellsApart();
         whoRangTellsApart();
         anyCallCounts();
         fourAndFive();
@@ -58,6 +60,30 @@ public final class SureTest {
         CallRounds y = Check.withCalls("p1;p2;p3;p", "23 12");
         Check.due("P15 of 0, not rung", y.known(1, 0), 1);
         Check.due("P15 of 3", y.known(1, 3), 12);
+    }
+
+    /** 0 may ring 1 or 3 first; 2, whom 1 rings then, can tell by the secrets it has behind it. */
+    private static void secretsBehindItTellApart() {
+        CallRounds x = Check.withCalls("p13;p2;p;p", "01 12");
+        Check.due("P13 it has 0's secret", x.alike(2), 1);
+        Check.due("P15 so 0 rang 1", x.known(2, 0), 3);
+        Check.due("P15 and not 3", x.known(2, 3), 8);
+        CallRounds y = Check.withCalls("p13;p2;p;p", "03 12");
+        Check.due("P13 it has not 0's secret", y.alike(2), 1);
+        Check.due("P15 so 0 rang 3", y.known(2, 0), 9);
+        Check.due("P15 and 3 has it, too", y.known(2, 3), 9);
+    }
+
+    /** 1 and 3 have the same secrets as 0 rings one of them. */
+    private static void withWhomTellsApart() {
+        CallRounds x = Check.withCalls("p13;p3;p;p", "13 01");
+        Check.due("P13 it was with 1", x.alike(0), 1);
+        Check.due("P15 1 has its secret", x.known(0, 1), 11);
+        Check.due("P15 3 has not", x.known(0, 3), 10);
+        CallRounds y = Check.withCalls("p13;p3;p;p", "13 03");
+        Check.due("P13 it was with 3", y.alike(0), 1);
+        Check.due("P15 1 has not its secret", y.known(0, 1), 10);
+        Check.due("P15 3 has", y.known(0, 3), 11);
     }
 
     private static void whoRangTellsApart() {
