@@ -45,8 +45,10 @@ public final class NetsTest {
 
     private static void suns() {
         String[] texts = {"p", "p;p", "p1;p", "p1;p0", "p1;p0;p", "p1;p2;p0", "p12;p0;p0", "p1;p0;p0", "p12;p0;p",
-            "p1;p2;p3;p0", "p1;p2;p3;p2", "p;p0;p0;p0", "p1;p0;p3;p2", "p;p;p;p"};
-        int[] due = {1, 1, 0, 1, 0, 1, 1, 0, 0, 1, 0, 0, 0, 1};
+            "p1;p2;p3;p0", "p1;p2;p3;p2", "p;p0;p0;p0", "p1;p0;p3;p2", "p;p;p;p",
+            "p;p0", "p;p2;p3;p10", "p2;p;p3;p01", "p1;p3;p;p02", "p1;p2;p03;p"};
+        // In the last five there is one alone from which one can't come to those with numbers.
+        int[] due = {1, 1, 0, 1, 0, 1, 1, 0, 0, 1, 0, 0, 0, 1, 0, 0, 0, 0, 0};
         for (int i = 0; i < texts.length; i++) Check.due("P19 " + texts[i], Check.withNet(texts[i]).sun(), due[i]);
     }
 
@@ -104,11 +106,11 @@ public final class NetsTest {
 
     private static void within() {
         int[][] line = {{1, 0, 0, 0}, {1, 1, 0, 0}, {1, 0, 1, -2}, {1, 0, -2, 1}};
-        CallRounds x = Check.withNet("p1;p2;p");
+        String[] lines = {"p1;p2;p", "p2;p;p1", "p;p0;p1", "p;p2;p0", "p1;p;p0", "p2;p0;p"};
         for (int rule = 0; rule < 4; rule++) {
             for (int other = 0; other < 4; other++) {
                 String what = "P22 " + rule + " in " + other;
-                Check.due(what, x.within(rule, other), line[rule][other]);
+                for (String text : lines) Check.due(what + ", " + text, Check.withNet(text).within(rule, other), line[rule][other]);
                 int unlike = rule != other && rule + other == 5 && rule > 1 ? -2 : 1;
                 Check.due(what + ", two", Check.withNet("p1;p").within(rule, other), unlike);
                 Check.due(what + ", all rung", Check.withCalls("p1;p0", "01").within(rule, other), unlike);
