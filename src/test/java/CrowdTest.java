@@ -1,7 +1,7 @@
 /**
- * One object asked about many nets with few positions in common, within its 512 calls, so that
- * whatever it keeps of earlier answers gets crowded: what promises 8 to 12, 20 and 22 answer must
- * not change by what was asked ahead.
+ * An object a kind of question, asked about many nets with few positions in common, within its 512
+ * calls, so that whatever it keeps of earlier answers gets crowded by that kind alone: what
+ * promises 8 to 12, 20 and 22 answer must not change by what was asked ahead.
  */
 public final class CrowdTest {
     private static final String[] NETS = {
@@ -13,53 +13,46 @@ public final class CrowdTest {
 
     private final CallRounds x = new CallRounds();
     private final Oracle oracle = new Oracle();
+    private int calls;
 
     public static void main(String[] args) {
-        CrowdTest runs = new CrowdTest();
-        CrowdTest within = new CrowdTest();
-        CrowdTest choices = new CrowdTest();
-        for (int net = 0; net < NETS.length; net++) {
-            for (int rule = 0; rule < 4; rule++) {
-                runs.askRuns(net, rule);
-                within.askWithin(net, rule);
-                if (net < 13) choices.askChoices(net, rule);
+        String[] kinds = {"all", "good", "fewest", "most", "verdict", "keeps", "best", "mend", "within 0", "within 1"};
+        for (String kind : kinds) {
+            CrowdTest test = new CrowdTest();
+            for (String net : NETS) {
+                if (test.calls + net.length() + 6 > 512) break;
+                test.tell(net);
+                for (int rule = 3; rule >= 0; rule--) test.ask(kind, rule, net);
             }
         }
         Check.finish();
     }
 
-    private String tell(int net, int rule) {
-        String text = NETS[net];
-        if (rule == 0) {
-            x.sheet(0, 0, text.length());
-            oracle.sheet(0, 0, text.length());
-            for (int i = 0; i < text.length(); i++) {
-                x.put(0, i, text.charAt(i));
-                oracle.put(0, i, text.charAt(i));
-            }
-            Check.due(text, x.net(0, 0, 0, text.length()), oracle.net(0, 0, 0, text.length()));
+    private void tell(String text) {
+        x.sheet(0, 0, text.length());
+        oracle.sheet(0, 0, text.length());
+        for (int i = 0; i < text.length(); i++) {
+            x.put(0, i, text.charAt(i));
+            oracle.put(0, i, text.charAt(i));
         }
-        return text + ", rule " + rule;
+        Check.due(text, x.net(0, 0, 0, text.length()), oracle.net(0, 0, 0, text.length()));
+        calls += text.length() + 2;
     }
 
-    private void askRuns(int net, int rule) {
-        String what = tell(net, rule);
-        if (rule == 0) Check.due("P8 good, " + what, x.runs(rule, 1), oracle.runs(rule, 1));
-        else if (rule == 1) Check.due("P10 fewest, " + what, x.calls(rule, 0), oracle.calls(rule, 0));
-        else Check.due("P8 all, " + what, x.runs(rule, 0), oracle.runs(rule, 0));
-    }
-
-    private void askWithin(int net, int rule) {
-        String what = tell(net, rule);
-        Check.due("P22 " + what + " in 0", x.within(rule, 0), oracle.within(rule, 0));
-    }
-
-    private void askChoices(int net, int rule) {
-        String what = tell(net, rule);
-        Check.due("P20 " + what, x.mend(rule, -1), oracle.mend(rule, -1));
-        Check.due("P11 " + what, x.keeps(rule, 3, 2), oracle.keeps(rule, 3, 2));
-        Check.due("P12 who rings, " + what, x.best(rule, 0), oracle.best(rule, 0));
-        Check.due("P12 who is rung, " + what, x.best(rule, 1), oracle.best(rule, 1));
-        Check.due("P8 " + what, x.runs(rule, 0), oracle.runs(rule, 0));
+    private void ask(String kind, int rule, String net) {
+        String what = kind + ", rule " + rule + ", " + net;
+        calls++;
+        switch (kind) {
+            case "all": Check.due("P8 " + what, x.runs(rule, 0), oracle.runs(rule, 0)); break;
+            case "good": Check.due("P8 " + what, x.runs(rule, 1), oracle.runs(rule, 1)); break;
+            case "fewest": Check.due("P10 " + what, x.calls(rule, 0), oracle.calls(rule, 0)); break;
+            case "most": Check.due("P10 " + what, x.calls(rule, 1), oracle.calls(rule, 1)); break;
+            case "verdict": Check.due("P9 " + what, x.verdict(rule), oracle.verdict(rule)); break;
+            case "keeps": Check.due("P11 " + what, x.keeps(rule, 3, 2), oracle.keeps(rule, 3, 2)); break;
+            case "best": Check.due("P12 " + what, x.best(rule, 1), oracle.best(rule, 1)); break;
+            case "mend": Check.due("P20 " + what, x.mend(rule, -1), oracle.mend(rule, -1)); break;
+            case "within 0": Check.due("P22 " + what, x.within(rule, 0), oracle.within(rule, 0)); break;
+            default: Check.due("P22 " + what, x.within(rule, 1), oracle.within(rule, 1));
+        }
     }
 }
