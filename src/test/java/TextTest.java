@@ -15,6 +15,7 @@ public final class TextTest {
         firstOfSeveral();
         longestText();
         placesCountFromTheFirstCode();
+        codesAheadAndBehindAreNotTaken();
         allShortRows();
         Check.finish();
     }
@@ -173,6 +174,19 @@ public final class TextTest {
         Check.due("P2 a person that there is not", x.net(0, 0, 56, 2), -101);
         Check.due("P2 as it should be", x.net(0, 0, 56, 1), 1);
         Check.due("P2 no code at the end", x.net(0, 0, 60, 0), -100);
+    }
+
+    private static void codesAheadAndBehindAreNotTaken() {
+        String cells = "3p1;p2";
+        CallRounds x = new CallRounds();
+        x.sheet(0, 0, cells.length());
+        for (int i = 0; i < cells.length(); i++) x.put(0, i, cells.charAt(i));
+        Check.due("P2 a text between digits", x.net(0, 0, 1, 4), 2);
+        Check.due("P2 ends too soon between p's", x.net(0, 0, 1, 3), -103);
+        Check.due("P2 a person that there is not, behind another", x.net(0, 0, 1, 2), -101);
+        Check.due("P2 a p between digits", x.net(0, 0, 1, 1), 1);
+        Check.due("P2 the digit ahead, taken", x.net(0, 0, 0, 5), -100);
+        Check.due("P2 the digit behind, taken", x.net(0, 0, 1, 5), -104);
     }
 
     /** Rows of p ; 0 1 3 and a code that is none, against the Oracle; cells are put anew where they change. */
